@@ -479,17 +479,14 @@ public final class ThumbForge {
         /** The register in which the variable then is: its own, or the spare one. */
         private int fetch(int variable, int spare) {
             if (hasRegister(variable)) {
-                return FIRST_REGISTER + variable;
+                return targetOf(variable);
             }
             put(FETCH_SLOT + 256 * spare + slotOf(variable));
             return spare;
         }
 
         private void copyTo0(int variable) {
-            int x = fetch(variable, 0);
-            if (x != 0) {
-                put(8 * x);
-            }
+            put(hasRegister(variable) ? 8 * targetOf(variable) : FETCH_SLOT + slotOf(variable));
         }
 
         private void keep(int variable) {
@@ -605,10 +602,14 @@ public final class ThumbForge {
                 case OUT:
                     putOut(x);
                     break;
+                case END:
+                    next = i;
+                    mode = ENDED;
+                    break;
                 default:
                     next = i;
+                    mode = TRAPPED;
                     trap = number;
-                    mode = program.kinds[i] == END ? ENDED : TRAPPED;
                     break;
             }
             return done;
