@@ -1,6 +1,3 @@
-import java.util.ArrayList;
-import java.util.Arrays;
-import java.util.List;
 import java.util.NoSuchElementException;
 
 /** Counts the answers that are not as due, and ends with exit code 1 if there was one. */
@@ -33,20 +30,40 @@ final class Checks {
         }
     }
 
-    /** The call throws just this, and leaves all that can be seen of the forge as it was. */
-    void refused(String what, ThumbForge forge, Class<? extends RuntimeException> due, Runnable call) {
+    /** The call throws just this, and the object then goes on in every way like one that was never asked. */
+    void refused(String what, Class<? extends RuntimeException> due, Forges.Maker maker, Forges.Call call) {
+        for (int look = 0; look < Look.COUNT; look++) {
+            ThumbForge tried = maker.make();
+            throwsOn(what, due, tried, call);
+            sameText(what + " changes nothing", Look.number(look, tried), Look.number(look, maker.make()));
+        }
+    }
+
+    void refused(String what, Class<? extends RuntimeException> due, Forges.State[] states, Forges.Call call) {
+        for (Forges.State state : states) {
+            refused(what + ", " + state.name(), due, state.maker(), call);
+        }
+    }
+
+    /** Only that it throws just this: for where the looks would need more calls than an object has. */
+    void throwsOn(String what, Class<? extends RuntimeException> due, ThumbForge forge, Forges.Call call) {
         made++;
-        String before = seen(forge);
-        String got = "nothing";
-        try {
-            call.run();
-        } catch (RuntimeException thrown) {
-            got = thrown.getClass().getName();
+        Class<?> got = Look.thrown(() -> call.on(forge));
+        if (got != due) {
+            fail(what, "threw " + got.getSimpleName() + ", due is " + due.getSimpleName());
         }
-        if (!got.equals(due.getName())) {
-            fail(what, "threw " + got + ", due is " + due.getName());
+    }
+
+    /** The call throws nothing, and the object then goes on in every way like one that was never asked. */
+    void changesNothing(String what, Forges.State[] states, Forges.Call call) {
+        for (Forges.State state : states) {
+            for (int look = 0; look < Look.COUNT; look++) {
+                ThumbForge asked = state.maker().make();
+                call.on(asked);
+                sameText(what + ", " + state.name() + ", changes nothing",
+                    Look.number(look, asked), Look.number(look, state.maker().make()));
+            }
         }
-        sameText(what + " changes nothing", seen(forge), before);
     }
 
     void finish() {
@@ -61,56 +78,5 @@ final class Checks {
         if (wrong <= 20) {
             System.out.println(what + " " + how);
         }
-    }
-
-    static String seen(ThumbForge forge) {
-        List<String> all = new ArrayList<>();
-        all.add("state " + forge.state() + " at " + forge.at() + " outputs " + forge.outputs());
-        all.add("halfwords " + Arrays.toString(image(forge)));
-        all.add("places " + Arrays.toString(places(forge)));
-        all.add("memory " + Arrays.toString(memory(forge)));
-        all.add("variables " + (forge.state() == ThumbForge.OFF ? "none" : Arrays.toString(variables(forge))));
-        all.add("put out " + Arrays.toString(keptOutputs(forge)));
-        return String.join("; ", all);
-    }
-
-    static int[] image(ThumbForge forge) {
-        return untilNone(0, forge::halfword);
-    }
-
-    static int[] places(ThumbForge forge) {
-        return untilNone(0, forge::place);
-    }
-
-    static int[] keptOutputs(ThumbForge forge) {
-        return untilNone(Math.max(0, forge.outputs() - 16), forge::output);
-    }
-
-    static int[] memory(ThumbForge forge) {
-        return untilNone(0, x -> x < 8 ? forge.memory(x) : none());
-    }
-
-    static int[] variables(ThumbForge forge) {
-        return untilNone(0, a -> a < 8 ? forge.variable(a) : none());
-    }
-
-    private static int none() {
-        throw new NoSuchElementException();
-    }
-
-    private interface Row {
-        int get(int i);
-    }
-
-    private static int[] untilNone(int first, Row row) {
-        List<Integer> all = new ArrayList<>();
-        try {
-            for (int i = first; i < first + 100000; i++) {
-                all.add(row.get(i));
-            }
-        } catch (NoSuchElementException end) {
-            return all.stream().mapToInt(Integer::intValue).toArray();
-        }
-        throw new AssertionError("a row has no end");
     }
 }

@@ -6,7 +6,6 @@ import java.util.Random;
  * (written after the processor's own manual, not after the document), does what the machine does.
  */
 public final class EmulatorTest {
-    private static final int[] RELATIONS = {0, 1, 2, 3, 8, 9, 10, 11, 12, 13};
     private static final int PROGRAMS = 1500;
 
     private final Checks checks = new Checks();
@@ -17,14 +16,42 @@ public final class EmulatorTest {
     public static void main(String[] args) {
         EmulatorTest test = new EmulatorTest();
         for (int seed = 0; seed < PROGRAMS; seed++) {
-            test.compare(new Random(seed), seed);
+            test.compare(seed);
         }
         test.checks.holds("enough of each kind was met: " + test.longBranches + " long branches, " + test.ends + " ENDs, " + test.traps + " TRAPs",
             test.longBranches > 100 && test.ends > 100 && test.traps > 100);
         test.checks.finish();
     }
 
-    private void compare(Random random, int seed) {
+    /** One object shows its image, a twin of it runs: an object is promised to last for 512 calls only. */
+    private void compare(int seed) {
+        ThumbForge shown = written(new Random(seed));
+        int length = shown.forge();
+        Emulator emulator = new Emulator(Look.image(shown), Look.places(shown), Look.memory(shown));
+        ThumbForge forge = written(new Random(seed));
+        checks.same("program " + seed + ", forge()", forge.forge(), length);
+        forge.start();
+        Random random = new Random(-seed);
+        for (int call = 0; call < 12 && emulator.state == 1; call++) {
+            int n = random.nextInt(4) == 0 ? random.nextInt(1000) : random.nextInt(12);
+            int due = emulator.run(n);
+            String what = "program " + seed + ", run(" + n + ")";
+            checks.same(what, forge.run(n), due);
+            checks.same(what + ", state", forge.state(), emulator.state);
+            checks.same(what + ", at", forge.at(), emulator.instruction);
+            checks.sameText(what + ", variables", Arrays.toString(Look.variables(forge)), Arrays.toString(emulator.variables()));
+            checks.sameText(what + ", memory", Arrays.toString(Look.memory(forge)), Arrays.toString(emulator.memory));
+            checks.same(what + ", outputs", forge.outputs(), emulator.outputs);
+            for (int i = Math.max(0, emulator.outputs - 16); i < emulator.outputs; i++) {
+                checks.same(what + ", output " + i, forge.output(i), emulator.output[i]);
+            }
+        }
+        longBranches += emulator.longTaken;
+        ends += emulator.state == 2 ? 1 : 0;
+        traps += emulator.state > 2 ? 1 : 0;
+    }
+
+    private static ThumbForge written(Random random) {
         ThumbForge forge = new ThumbForge();
         int count = 1 + random.nextInt(48);
         for (int i = 0; i < count - 1; i++) {
@@ -38,26 +65,7 @@ public final class EmulatorTest {
         for (int x = 0; x < 8; x++) {
             forge.poke(x, number(random));
         }
-        forge.forge();
-        Emulator emulator = new Emulator(forge, Checks.memory(forge));
-        forge.start();
-        for (int call = 0; call < 40 && forge.state() == ThumbForge.RUNS; call++) {
-            int n = random.nextInt(4) == 0 ? random.nextInt(300) : random.nextInt(12);
-            int due = emulator.run(n);
-            String what = "program " + seed + ", run(" + n + ")";
-            checks.same(what, forge.run(n), due);
-            checks.same(what + ", state", forge.state(), emulator.state);
-            checks.same(what + ", at", forge.at(), emulator.instruction);
-            checks.sameText(what + ", variables", Arrays.toString(Checks.variables(forge)), Arrays.toString(emulator.variables()));
-            checks.sameText(what + ", memory", Arrays.toString(Checks.memory(forge)), Arrays.toString(emulator.memory));
-            checks.same(what + ", outputs", forge.outputs(), emulator.outputs);
-            for (int i = Math.max(0, emulator.outputs - 16); i < emulator.outputs; i++) {
-                checks.same(what + ", output " + i, forge.output(i), emulator.output[i]);
-            }
-        }
-        longBranches += emulator.longTaken;
-        ends += emulator.state == 2 ? 1 : 0;
-        traps += emulator.state > 2 ? 1 : 0;
+        return forge;
     }
 
     private static void append(ThumbForge forge, Random random, int count) {
@@ -70,7 +78,7 @@ public final class EmulatorTest {
             case 8, 9 -> forge.load(d, a);
             case 10, 11 -> forge.store(a, b);
             case 12 -> forge.out(a);
-            case 13, 14 -> forge.branch(RELATIONS[random.nextInt(10)], a, b, random.nextInt(count));
+            case 13, 14 -> forge.branch(Forges.RELATIONS[random.nextInt(10)], a, b, random.nextInt(count));
             default -> {
                 if (random.nextInt(3) == 0) {
                     forge.jump(random.nextInt(count));
@@ -101,7 +109,8 @@ public final class EmulatorTest {
     private static final class Emulator {
         private static final int MEMORY = 0x20000000;
 
-        private final ThumbForge forge;
+        private final int[] image;
+        private final int[] places;
         private final int[] register = new int[8];
         private final int[] stack = new int[4];
         final int[] memory;
@@ -116,8 +125,9 @@ public final class EmulatorTest {
         private boolean carry;
         private boolean overflow;
 
-        Emulator(ThumbForge forge, int[] memory) {
-            this.forge = forge;
+        Emulator(int[] image, int[] places, int[] memory) {
+            this.image = image;
+            this.places = places;
             this.memory = memory;
             step();
         }
@@ -139,7 +149,6 @@ public final class EmulatorTest {
         }
 
         private boolean atAnInstruction() {
-            int[] places = Checks.places(forge);
             for (int i = 0; i < places.length; i++) {
                 if (2 * places[i] == pc) {
                     instruction = i;
@@ -150,7 +159,7 @@ public final class EmulatorTest {
         }
 
         private void step() {
-            int h = forge.halfword(pc / 2);
+            int h = image[pc / 2];
             int here = pc;
             pc += 2;
             int low = h & 7;
@@ -188,7 +197,7 @@ public final class EmulatorTest {
                 }
             } else if (h >> 11 == 0b11100) {
                 pc = here + 4 + 2 * ((h & 2047) << 21 >> 21);
-                longTaken += isBranchOverOne(forge.halfword(here / 2 - 1)) ? 1 : 0;
+                longTaken += isBranchOverOne(image[here / 2 - 1]) ? 1 : 0;
             } else {
                 throw new AssertionError("no such halfword: " + h);
             }
@@ -256,7 +265,7 @@ public final class EmulatorTest {
             if (address % 4 != 0) {
                 throw new AssertionError("no word has the address " + address);
             }
-            return forge.halfword(address / 2) | forge.halfword(address / 2 + 1) << 16;
+            return image[address / 2] | image[address / 2 + 1] << 16;
         }
 
         private static int word(int address) {

@@ -1,9 +1,12 @@
 import java.util.Arrays;
 import java.util.Random;
 
-/** Promise 11: the long branches are the fewest for which each short one reaches. */
+/**
+ * Terms, for promise 11: "A branch is LONG if it must be: the long ones are the fewest (as a set) for which D is
+ * -128 .. 127 at each short one."
+ */
 public final class ReachTest {
-    private static final int[] RELATIONS = {0, 1, 2, 3, 8, 9, 10, 11, 12, 13};
+    private static final int[] RELATIONS = Forges.RELATIONS;
 
     private final Checks checks = new Checks();
 
@@ -11,8 +14,13 @@ public final class ReachTest {
         ReachTest test = new ReachTest();
         test.forwardEdge();
         test.backwardEdge();
+        test.edgesWithFetches();
         test.longHalfwords();
         test.oneLongBranchMakesAnotherLong();
+        test.twoThatCouldBothBeLong();
+        test.twoThatMustBothBeLong();
+        test.whatItselfIsLongerDoesNotCount();
+        test.longBranchesMoveThePool();
         test.aChainOfLongBranches();
         test.longBranchesOfAnOldImageAreForgotten();
         for (int seed = 0; seed < 400; seed++) {
@@ -37,15 +45,25 @@ public final class ReachTest {
     }
 
     private void forwardEdge() {
+        checks.same("126 on", lengthOf(forward(127), 0), 2);
+        checks.same("126 on, its halfword", forward(127).halfword(2), 53248 + 126);
         checks.same("127 on", lengthOf(forward(128), 0), 2);
         checks.same("127 on, its halfword", forward(128).halfword(2), 53248 + 127);
         checks.same("128 on", lengthOf(forward(129), 0), 3);
+        checks.same("128 on, turned round", forward(129).halfword(2), 53248 + 256);
+        checks.same("128 on, the jump", forward(129).halfword(3), 57344 + 128);
+        checks.same("129 on", lengthOf(forward(130), 0), 3);
+        checks.same("129 on, the jump", forward(130).halfword(3), 57344 + 129);
     }
 
     private static ThumbForge forward(int between) {
+        return forward(0, 1, between);
+    }
+
+    private static ThumbForge forward(int a, int b, int between) {
         ThumbForge forge = new ThumbForge();
         int fillers = between / 6 + between % 6;
-        forge.branch(0, 0, 1, fillers + 1);
+        forge.branch(0, a, b, fillers + 1);
         fill(forge, between);
         forge.stop(-1);
         forge.forge();
@@ -53,18 +71,44 @@ public final class ReachTest {
     }
 
     private void backwardEdge() {
+        checks.same("127 back", lengthOf(backward(124), 24), 2);
+        checks.same("127 back, its halfword", backward(124).halfword(126), 53248 + 129);
         checks.same("128 back", lengthOf(backward(125), 25), 2);
         checks.same("128 back, its halfword", backward(125).halfword(127), 53248 + 128);
         checks.same("129 back", lengthOf(backward(126), 21), 3);
+        checks.same("129 back, turned round", backward(126).halfword(128), 53248 + 256);
+        checks.same("129 back, the jump", backward(126).halfword(129), 57344 + 2048 - 130);
+        checks.same("130 back", lengthOf(backward(127), 22), 3);
     }
 
     private static ThumbForge backward(int between) {
+        return backward(0, 1, between);
+    }
+
+    private static ThumbForge backward(int a, int b, int between) {
         ThumbForge forge = new ThumbForge();
         fill(forge, between);
-        forge.branch(0, 0, 1, 0);
+        forge.branch(0, a, b, 0);
         forge.stop(-1);
         forge.forge();
         return forge;
+    }
+
+    /** D is counted from the branch's own halfword: what it fetches lies in front of it. */
+    private void edgesWithFetches() {
+        int[][] fetched = {{0, 4, 1}, {4, 0, 1}, {4, 7, 2}};
+        for (int[] one : fetched) {
+            int a = one[0];
+            int b = one[1];
+            int more = one[2];
+            String what = " with variables " + a + " and " + b;
+            checks.same("127 on" + what, lengthOf(forward(a, b, 128), 0), 2 + more);
+            checks.same("128 on" + what, lengthOf(forward(a, b, 129), 0), 3 + more);
+            int inside = 125 - more;
+            int outside = 126 - more;
+            checks.same("128 back" + what, lengthOf(backward(a, b, inside), inside / 6 + inside % 6), 2 + more);
+            checks.same("129 back" + what, lengthOf(backward(a, b, outside), outside / 6 + outside % 6), 3 + more);
+        }
     }
 
     private void longHalfwords() {
@@ -107,6 +151,73 @@ public final class ReachTest {
         forge.stop(-1);
         forge.forge();
         return forge;
+    }
+
+    /** Each reaches just so over the other: all long would do as well, but both short are fewer. */
+    private void twoThatCouldBothBeLong() {
+        ThumbForge forge = crossing(0);
+        checks.same("on", lengthOf(forge, 1), 2);
+        checks.same("back", lengthOf(forge, 22), 2);
+        checks.same("on, its halfword", forge.halfword(forge.place(2) - 1), 53248 + 127);
+        checks.same("back, its halfword", forge.halfword(forge.place(23) - 1), 53248 + 128);
+    }
+
+    /** One halfword more between them: then neither reaches. */
+    private void twoThatMustBothBeLong() {
+        ThumbForge forge = crossing(1);
+        checks.same("on", lengthOf(forge, 1), 3);
+        checks.same("back", lengthOf(forge, 23), 3);
+    }
+
+    /** Three halfwords, a branch on, 20 times six halfwords, a branch back, six halfwords. */
+    private static ThumbForge crossing(int more) {
+        ThumbForge forge = new ThumbForge();
+        forge.compute(2, 0, 0, 0);
+        forge.branch(0, 0, 1, 24 + more);
+        for (int i = 0; i < 20; i++) {
+            forge.store(4, 5);
+        }
+        for (int i = 0; i < more; i++) {
+            forge.stop(3);
+        }
+        forge.branch(0, 0, 1, 0);
+        forge.store(4, 5);
+        forge.stop(-1);
+        forge.forge();
+        return forge;
+    }
+
+    /** Were it long, its target would be one farther; but short it reaches, so it is short. */
+    private void whatItselfIsLongerDoesNotCount() {
+        ThumbForge forge = forward(128);
+        checks.same("just reaches", lengthOf(forge, 0), 2);
+        checks.same("the END", forge.place(Look.places(forge).length - 1), 131);
+    }
+
+    /** A long branch makes the code one longer: odd becomes even, and the literals are nearer or farther. */
+    private void longBranchesMoveThePool() {
+        for (int more = 0; more < 2; more++) {
+            ThumbForge forge = new ThumbForge();
+            forge.constant(0, 70001);
+            forge.branch(0, 0, 1, 23 + more);
+            fill(forge, 126 + more);
+            forge.constant(1, 70003);
+            forge.stop(-1);
+            // The literal, the constant, a short branch, the filler, the constant and the END.
+            int code = 1 + 1 + 2 + 126 + more + 1 + 1;
+            checks.same("length, " + more, forge.forge(), code + code % 2 + 6);
+            checks.same("the first literal", forge.halfword(1) & 255, (code + code % 2 + 2 - 2) / 2);
+        }
+        ThumbForge odd = new ThumbForge();
+        odd.constant(0, 70001);
+        odd.branch(0, 0, 1, 24);
+        fill(odd, 132);
+        odd.constant(1, 70003);
+        odd.stop(-1);
+        checks.same("length with a long one", odd.forge(), 1 + 1 + 3 + 132 + 2 + 1 + 6);
+        checks.same("the halfword 0", odd.halfword(139), 0);
+        checks.same("the first literal", odd.halfword(1) & 255, (140 + 2 - 2) / 2);
+        checks.same("the second literal", odd.halfword(137) & 255, (140 + 4 - 138) / 2);
     }
 
     /** Branch i may have 14 - i long ones behind it, so each one that becomes long pushes out just one more. */
