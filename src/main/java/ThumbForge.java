@@ -446,7 +446,7 @@ public final class ThumbForge {
             int y = fetch(b, 1);
             put(CHANGE_0[op - FIRST_CHANGING_OP] + 8 * y);
             if (hasRegister(d)) {
-                put(targetOf(d));
+                put(registerOf(d));
             } else {
                 keep(d);
             }
@@ -479,14 +479,14 @@ public final class ThumbForge {
         /** The register in which the variable then is: its own, or the spare one. */
         private int fetch(int variable, int spare) {
             if (hasRegister(variable)) {
-                return targetOf(variable);
+                return registerOf(variable);
             }
             put(FETCH_SLOT + 256 * spare + slotOf(variable));
             return spare;
         }
 
         private void copyTo0(int variable) {
-            put(hasRegister(variable) ? 8 * targetOf(variable) : FETCH_SLOT + slotOf(variable));
+            put(hasRegister(variable) ? 8 * registerOf(variable) : FETCH_SLOT + slotOf(variable));
         }
 
         private void keep(int variable) {
@@ -496,11 +496,15 @@ public final class ThumbForge {
         }
 
         private static int targetOf(int variable) {
-            return hasRegister(variable) ? FIRST_REGISTER + variable : 0;
+            return hasRegister(variable) ? registerOf(variable) : 0;
         }
 
         private static boolean hasRegister(int variable) {
             return variable < VARIABLES_WITH_REGISTERS;
+        }
+
+        private static int registerOf(int variable) {
+            return FIRST_REGISTER + variable;
         }
 
         private static int slotOf(int variable) {
